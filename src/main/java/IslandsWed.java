@@ -248,7 +248,8 @@ public final class IslandsWed {
         if (!hasSea) {
             return STATE;
         }
-        solveMatches();
+        meetAll(MATCH_DAYS);
+        matches.solve(now, met);
         return matchesTell(what);
     }
 
@@ -375,8 +376,10 @@ public final class IslandsWed {
                 h = 31L * h + now.islandAt(place);
             }
         }
+        meetAll(MEET_DAYS);
         h = digestIslands(h);
         if (hasSea) {
+            matches.solve(now, met);
             h = digestMatches(h);
         }
         for (int i = 0; i < letters; i++) {
@@ -460,11 +463,6 @@ public final class IslandsWed {
         }
     }
 
-    private void solveMatches() {
-        meetAll(MATCH_DAYS);
-        matches.solve(now, met);
-    }
-
     private int matchesTell(int what) {
         if (what == 0) {
             return matches.stable;
@@ -492,7 +490,6 @@ public final class IslandsWed {
 
     private long digestIslands(long begun) {
         long h = begun;
-        meetAll(MEET_DAYS);
         for (int island = 0; island < now.islands; island++) {
             for (int what = 0; what < ABOUTS; what++) {
                 h = 31L * h + about(island, what);
@@ -507,7 +504,6 @@ public final class IslandsWed {
     }
 
     private long digestMatches(long begun) {
-        solveMatches();
         long h = 31L * begun + matchesTell(0);
         h = 31L * h + matchesTell(1);
         for (int island = 0; island < ISLANDS; island++) {
@@ -591,7 +587,7 @@ public final class IslandsWed {
         }
 
         private int pushOf(int island) {
-            if (isAnchored(island)) {
+            if ((anchored >> island & 1) == 1) {
                 return 0;
             }
             int own = kind[island];
@@ -626,10 +622,10 @@ public final class IslandsWed {
 
         private void noteMeetings(int[] first, int today) {
             for (int a = 0; a < islands; a++) {
-                for (int b = 0; b < islands; b++) {
-                    int pair = a * ISLANDS + b;
-                    if (first[pair] == NONE && areBeside(a, b)) {
-                        first[pair] = today;
+                for (int b = a + 1; b < islands; b++) {
+                    if (first[a * ISLANDS + b] == NONE && areBeside(a, b)) {
+                        first[a * ISLANDS + b] = today;
+                        first[b * ISLANDS + a] = today;
                     }
                 }
             }
@@ -829,7 +825,8 @@ public final class IslandsWed {
                 size[i] = waters.size[i];
                 suitors[i] = 0;
                 for (int j = 0; j < islands; j++) {
-                    if (j != i && met[i * ISLANDS + j] != NONE) {
+                    int first = met[i * ISLANDS + j];
+                    if (first != NONE && first <= MATCH_DAYS) {
                         suitors[i] |= 1 << j;
                     }
                 }
@@ -887,10 +884,10 @@ public final class IslandsWed {
 
         /** All like by the same order, so it does not matter who is asked. */
         private boolean likesBetter(int wooer, int had) {
-            if (had == NONE || size[wooer] != size[had]) {
-                return had == NONE || size[wooer] > size[had];
+            if (had == NONE) {
+                return true;
             }
-            return wooer < had;
+            return size[wooer] > size[had] || (size[wooer] == size[had] && wooer < had);
         }
     }
 }
