@@ -567,8 +567,6 @@ public final class IslandsWed {
             place[island] = newPlace;
             roped[island] = 0;
             party[island] = 1 << island;
-            // A number may come again behind a restore, but it never brings an anchor.
-            anchored &= ~(1 << island);
             islands++;
             return island;
         }

@@ -501,6 +501,14 @@ public final class PromiseTests {
     x.anchor(0, true);
     due(x.anchors(1, 2, 7, 0), 1);
     due(x.anchors(1, 2, 7, 1), 4);
+    IslandsWed fewer = sea(ON);
+    int[] places = {7, 8, 3, 5};
+    for (int place : places) fewer.island(ISLAND, 1, place);
+    fewer.wed(0, 1);
+    due(fewer.anchors(2, 3, 30, 1), 8);
+    due(fewer.anchors(2, 3, 30, 0), 1);
+    fewer.anchor(0, true);
+    due(fewer.anchors(2, 3, 30, 1), 2);
     IslandsWed edge = late("<.<...<<><>.", 5, 2, 9, 5);
     for (int d = 0; d < 30; d++) edge.day();
     due(edge.anchors(0, 2, 30, 1), 0);
@@ -552,6 +560,17 @@ public final class PromiseTests {
     IslandsWed apart = sea(STILL);
     for (int i = 0; i < 3; i++) apart.island(ROCK, 5, 2 * i);
     matches(apart, 0, NONE, NONE, NONE, NONE, NONE);
+    IslandsWed crossed = sea(STILL);
+    int[] places = {0, 5, 1, 6};
+    for (int place : places) crossed.island(ROCK, 4, place);
+    matches(crossed, 2, 2, 3, 0, 1, NONE);
+    IslandsWed parted = sea("........<...");
+    parted.island(ROCK, 1, 5);
+    parted.island(SAIL, 1, 6);
+    parted.wind(1);
+    matches(parted, 1, 1, 0, NONE, NONE, NONE);
+    parted.day();
+    matches(parted, 0, NONE, NONE, NONE, NONE, NONE);
     IslandsWed edge = late("<.<...<<><>.", 5, 2, 9, 5);
     for (int d = 0; d < 29; d++) edge.day();
     due(edge.meet(0, 2), 31);
@@ -653,6 +672,15 @@ public final class PromiseTests {
     sail.shell(0, 1, 20, true);
     due(sail.guess(0, 0), 22 + 2);
     due(sail.guess(0, 1), 0);
+    IslandsWed three = sea(STILL);
+    three.island(ROCK, 1, 0);
+    three.island(ROCK, 1, 5);
+    three.island(ROCK, 1, 9);
+    three.shell(1, 2, 0, true);
+    due(three.guess(0, 0), 0);
+    due(three.guess(1, 0), 6);
+    due(three.guess(1, 1), 24);
+    due(three.guess(2, 1), 12);
   }
 
   private static long nextSeed(long seed) {
@@ -669,13 +697,16 @@ public final class PromiseTests {
     due(x.seasons(1, 1, 0), 0);
     due(x.seasons(1, 1, 1), 1);
     due(x.seasons(1, 0, 1), 0);
+    x.island(ROCK, 1, 10);
+    due(x.seasons(1, 0, 1), 1);
+    due(x.seasons(1, 1, 1), 1);
     long seed = MAX;
     for (int days = 1; days <= 60; days++) {
       seed = nextSeed(seed);
       due(x.seasons(days, MAX, 2), seed);
     }
     due(x.about(0, 2), 0);
-    counts(x, 12, 0, 2, 0, 2, 0, 0, 1, 0, 0, 1, 0);
+    counts(x, 12, 0, 3, 0, 3, 0, 0, 1, 0, 0, 1, 0);
     IslandsWed near = sea(STILL);
     near.island(SAIL, 1, 0);
     near.island(ROCK, 1, 1);
@@ -757,6 +788,29 @@ public final class PromiseTests {
     due(x.restore(), STATE);
     due(x.image(), 0);
     due(x.restore(), 0);
+    promise24Shells();
+  }
+
+  private static void promise24Shells() {
+    IslandsWed x = sea(STILL);
+    x.island(SAIL, 1, 0);
+    x.island(ROCK, 1, 5);
+    x.island(ROCK, 1, 1);
+    x.shell(0, 1, 1, true);
+    x.shell(1, 0, 0, false);
+    int many = x.guess(0, 0);
+    x.image();
+    due(x.wed(0, 2), 1);
+    x.forget();
+    x.shell(2, 1, 7, false);
+    x.shell(2, 1, 8, true);
+    due(x.guess(0, 0) == many ? 1 : 0, 0);
+    due(x.restore(), 0);
+    due(x.count(3), 0);
+    due(x.count(8), 2);
+    due(many, 2);
+    due(x.guess(0, 0), 2);
+    due(x.guess(0, 1), 11);
   }
 
   private static void promise25() {
